@@ -1342,22 +1342,15 @@ public final class TreadRing {
             }
         }
 
-        private int readRoot() {
+        /** NONE for the word none, if it may stand there. */
+        private int readRoot(boolean noneToo) {
             int root = rootHere();
-            if (root == NONE) {
+            if (root == NONE && !(noneToo && isWord("none"))) {
                 note(WRONG_TOKEN);
             } else {
                 advanceToken();
             }
             return root;
-        }
-
-        private int readRootOrNone() {
-            if (isWord("none")) {
-                advanceToken();
-                return NONE;
-            }
-            return readRoot();
         }
 
         private int readNumber(int least, int most) {
@@ -1409,7 +1402,7 @@ public final class TreadRing {
             } else if (times) {
                 openBlock(TIMES, NONE, readNumber(2, 9));
             } else {
-                openBlock(IF, readRoot(), 0);
+                openBlock(IF, readRoot(false), 0);
             }
         }
 
@@ -1426,7 +1419,7 @@ public final class TreadRing {
                 advanceToken();
                 int field = readNumber(0, MOST_FIELDS - 1);
                 readSign('=');
-                script.add(STORE, root, readRootOrNone(), field);
+                script.add(STORE, root, readRoot(true), field);
             } else {
                 readSign('=');
                 readValue(root);
@@ -1440,7 +1433,7 @@ public final class TreadRing {
                 script.add(NEW, root, NONE, readNumber(0, MOST_FIELDS));
                 return;
             }
-            int other = readRootOrNone();
+            int other = readRoot(true);
             if (other != NONE && isSign('.')) {
                 advanceToken();
                 script.add(LOAD, root, other, readNumber(0, MOST_FIELDS - 1));
