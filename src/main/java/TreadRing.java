@@ -1026,17 +1026,13 @@ public final class TreadRing {
             return NONE;
         }
 
+        /** All its SLOTS are FREE, or it has none: those of the new SIZE begin where a multiple of it stands. */
         private void resize(int page, int size) {
-            int from = page * PAGE_CELLS;
-            int to = from + PAGE_CELLS;
-            if (sizes[page] != 0) {
-                for (int address = from; address < to; address += sizes[page]) {
-                    rings.move(address, Rings.OUTSIDE, false);
-                }
-            }
             sizes[page] = size;
-            for (int address = from; address < to; address += size) {
-                rings.move(address, Rings.row(size, FREE), false);
+            for (int cell = 0; cell < PAGE_CELLS; cell += LEAST_SIZE) {
+                boolean begins = (cell & (size - 1)) == 0;
+                int address = page * PAGE_CELLS + cell;
+                rings.move(address, begins ? Rings.row(size, FREE) : Rings.OUTSIDE, false);
                 cells[address] = NONE;
             }
         }

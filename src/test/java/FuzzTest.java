@@ -253,6 +253,11 @@ public final class FuzzTest {
         if (random.nextInt(3) > 0 && !same("open", draw(1, 8))) {
             return false;
         }
+        boolean set = random.nextInt(4) == 0 || (same("turn", 0, draw(0, 3)) && same("turn", 1, draw(0, 3))
+                && same("turn", 2, draw(0, 3)) && same("turn", 3, draw(0, 6)));
+        if (!set) {
+            return false;
+        }
         for (int i = 0; i < CALLS; i++) {
             if (!oneCall() || (i % 64 == 63 && !sameState())) {
                 return false;

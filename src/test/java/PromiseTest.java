@@ -365,6 +365,47 @@ public final class PromiseTest {
         due("root(1)", z.root(1), -1);
         due("LOST", z.about(5), 1);
 
+        for (int root = 0; root < 6; root++) {
+            for (int barrier = 1; barrier <= 3; barrier += 2) {
+                TreadRing v = quiet(8);
+                v.make(0, 1);
+                v.make(1, 1);
+                v.store(0, 0, 1);
+                v.copy(1, -1);
+                v.turn(0, barrier);
+                v.start();
+                v.load(root, 0, 0);
+                if (root != 0) {
+                    v.store(0, 0, -1);
+                }
+                due("none is GREY behind the first STEP, by BARRIER " + barrier, v.work(500), root == 0 || barrier == 1 ? 2 : 1);
+                due("root(" + root + ")", v.root(root), root == 0 || barrier == 1 ? 2 : -1);
+                due("LOST", v.about(5), root == 0 || barrier == 1 ? 0 : 1);
+            }
+        }
+        TreadRing u = quiet(8);
+        u.turn(0, 3);
+        u.make(1, 1);
+        u.make(0, 1);
+        u.store(1, 0, 0);
+        u.copy(0, -1);
+        u.start();
+        u.load(0, 1, 0);
+        u.store(1, 0, -1);
+        due("work(500)", u.work(500), 1);
+        due("ROOT 0 is LOST", u.root(0), -1);
+        due("about(5)", u.about(5), 1);
+        u.undo();
+        u.undo();
+        u.undo();
+        u.undo();
+        u.turn(0, 1);
+        u.start();
+        u.load(0, 1, 0);
+        u.store(1, 0, -1);
+        u.work(500);
+        due("by BARRIER 1 it is not", u.root(0), 2);
+
         TreadRing w = chain();
         w.turn(0, 3);
         w.load(1, 0, 0);
@@ -473,6 +514,8 @@ public final class PromiseTest {
         fault(x, "g=b;", 1, 0);
         fault(x, "a=g;", 1, 2);
         fault(x, "ab=c;", 1, 0);
+        fault(x, "az=c;", 1, 0);
+        fault(x, "a9=c;", 1, 1);
         fault(x, "a=b c;", 1, 4);
         fault(x, "A=b;", 1, 0);
         fault(x, "\ta=b;", 1, 0);
@@ -626,6 +669,14 @@ public final class PromiseTest {
         due("cheapest(0), of like ones the least", x.cheapest(0), 0);
         due("cheapest(1)", x.cheapest(1), 6);
         due("nothing is done", x.about(7), 0);
+        // By 0 and 1 the CYCLE ENDS at the first two STEPS, and another one STARTS; by 2 it has one more to go.
+        TreadRing y = quiet(8);
+        y.turn(3, 6);
+        program(y, "d=new 1;c=new 1;c.0=d;d=new 1;c.0=none;step 2;a=new 1;step 2;");
+        due("STEPS by 0", y.runBy(0, 1), 4);
+        due("STEPS by 1", y.runBy(1, 1), 4);
+        due("cheapest(0), the last", y.cheapest(0), 2);
+        due("cheapest(1)", y.cheapest(1), 3);
     }
 
     private static void suits() {
@@ -1141,6 +1192,17 @@ public final class PromiseTest {
         x.store(2, 0, 1);
         x.store(2, 1, 1);
         due("law(0), one OBJECT", x.law(0), 1);
+        x.store(2, 0, -1);
+        due("by its last FIELD", x.law(0), 1);
+        x.store(2, 1, -1);
+        due("by none", x.law(0), 0);
+        x.store(2, 0, 1);
+        due("by its first FIELD", x.law(0), 1);
+        x.make(3, 1);
+        x.store(3, 0, 1);
+        due("another one", x.law(0), 2);
+        x.store(3, 0, -1);
+        x.store(2, 1, 1);
         due("law(1)", x.law(1), 0);
         due("law(2)", x.law(2), -1);
         due("law(-1)", x.law(-1), -1);
