@@ -88,6 +88,7 @@ public final class PromiseTest {
         due("open(9)", x.open(9), false);
         due("open(-1)", x.open(-1), false);
         due("about(7) behind it", x.about(7), 4);
+        due("open(8)", x.open(8) && x.about(0) == 8, true);
         due("open(1)", x.open(1), true);
         int[] about = {1, 0, 0, 0, 0, 0, 0, 0, 0, 0, 2, 2, -1, 0, 0, 0, 0, 1, 3};
         for (int what = 0; what < about.length; what++) {
@@ -208,6 +209,11 @@ public final class PromiseTest {
             y.start();
             due("store(0, 1, NONE) over 16", y.store(0, 1, -1), true);
             due("the old one by BARRIER " + barrier, y.slot(16, 0), oldOne[barrier]);
+            y.undo();
+            y.store(0, 0, -1);
+            due("no other FIELD's", y.slot(16, 0), 1);
+            y.store(0, 0, 0);
+            due("no other FIELD's", y.slot(16, 0), 1);
             TreadRing z = chain();
             z.turn(0, barrier);
             z.make(1, 1);
@@ -622,6 +628,10 @@ public final class PromiseTest {
         due("nothing is done", x.about(13), 2);
         due("nothing is done", x.about(8), 0);
 
+        program(x, "a=new 1;b=new 1;b=none;b=new 2;b=a;");
+        due("OBJECTS", x.runBy(0, 5), 3);
+        due("REACHED ones", x.runBy(0, 6), 1);
+
         // The CYCLE starts at the fourth OBJECT; what is hidden from it then is LOST by none.
         TreadRing y = quiet(1);
         y.turn(3, 1);
@@ -693,6 +703,14 @@ public final class PromiseTest {
         due("by PACE 8 one is FORCED", x.turn(2, 8) == 0 && x.runBy(0, 3) == 1, true);
         x.undo();
         due("about(10) stays", x.about(10), 0);
+        TreadRing y = quiet(2);
+        y.turn(3, 1);
+        program(y, "a=new 3;b=new 3;c=new 3;d=new 7;d=new 7;e=new 7;");
+        due("suits(), by 16 STEPS", y.suits(), 16);
+        y.open(3);
+        y.turn(3, 1);
+        program(y, "a=new 3;b=new 3;c=new 3;f=new 0;d=new 7;d=new 7;e=new 7;");
+        due("suits(), by 17 STEPS", y.suits(), -1);
     }
 
     private static void undo() {
@@ -1023,6 +1041,13 @@ public final class PromiseTest {
         due("live(1)", x.live(1), 8);
         due("live(2)", x.live(2), 2);
         due("live(3): 0 is GREY, 16 is ECRU", x.live(3), 1);
+        x.make(5, 0);
+        x.make(5, 0);
+        x.copy(5, -1);
+        due("live(3): two new ones are BLACK", x.live(3), 3);
+        x.undo();
+        x.undo();
+        x.undo();
         x.work(500);
         due("live(2)", x.live(2), 2);
         due("live(3), none RUNS", x.live(3), 0);
@@ -1040,6 +1065,7 @@ public final class PromiseTest {
         due("path(0, -1)", x.path(0, -1), -1);
         due("path(0, 128)", x.path(0, 128), -1);
         x.load(1, 0, 0);
+        due("path(0, 8), by that ROOT alone", x.path(0, 8), 2);
         due("path(1, 16)", x.path(1, 16), -1);
         due("path(1, 8)", x.path(1, 8), 1);
         x.load(2, 1, 0);
@@ -1128,6 +1154,17 @@ public final class PromiseTest {
         // The CYCLE STARTS at the eighth; its one STEP leaves that alone.
         due("pace(0, 9)", z.pace(0, 9), 1);
         due("pace(0, 64)", z.pace(0, 64), 1);
+        TreadRing w = quiet(2);
+        w.turn(3, 1);
+        program(w, "a=new 3;b=new 3;c=new 3;d=new 7;d=new 7;");
+        w.run();
+        due("pace(7, 1), by 16 STEPS", w.pace(7, 1), 16);
+        due("pace(0, 1), no PAGE", w.pace(0, 1), -1);
+        w.open(3);
+        w.turn(3, 1);
+        program(w, "a=new 3;b=new 3;c=new 3;f=new 0;d=new 7;d=new 7;");
+        due("by no PACE", w.turn(2, 0) == 2 && w.run() == 6 && w.about(3) == 0, true);
+        due("pace(7, 1), by 17 STEPS", w.pace(7, 1), -1);
         due("pace(7, 3): seven FIELDS ahead of the third", z.pace(7, 3), 7);
         due("about(10)", z.about(10), 0);
     }
