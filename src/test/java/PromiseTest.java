@@ -1,67 +1,5 @@
 /** Each promise of the document by its number: ordinary calls, the edges that it names, wrong ones. */
-public final class PromiseTest {
-    private static int wrong = 0;
-    private static int asked = 0;
-    private static int promise = 0;
-
-    private static void due(String call, int got, int want) {
-        asked++;
-        if (got != want) {
-            wrong++;
-            System.out.println("promise " + promise + ": " + call + " answered " + got + ", due is " + want);
-        }
-    }
-
-    private static void due(String call, boolean got, boolean want) {
-        due(call, got ? 1 : 0, want ? 1 : 0);
-    }
-
-    /** A HEAP on which nothing starts or steps by itself. */
-    private static TreadRing quiet(int pages) {
-        TreadRing x = new TreadRing();
-        x.open(pages);
-        x.turn(2, 0);
-        x.turn(3, 0);
-        return x;
-    }
-
-    /** ROOT 0 names 0 (two FIELDS: 4, and 16), 4 (two FIELDS: 8), 8 (two), 16 (none); 12 is FREE. */
-    private static TreadRing chain() {
-        TreadRing x = quiet(8);
-        x.make(0, 2);
-        x.make(1, 2);
-        x.make(2, 2);
-        x.make(3, 0);
-        x.store(0, 0, 1);
-        x.store(0, 1, 3);
-        x.store(1, 0, 2);
-        x.copy(1, TreadRing.NONE);
-        x.copy(2, TreadRing.NONE);
-        x.copy(3, TreadRing.NONE);
-        return x;
-    }
-
-    private static void type(TreadRing x, String text) {
-        StringBuilder filled = new StringBuilder(text);
-        while (filled.length() % 20 != 0) {
-            filled.append(' ');
-        }
-        x.cut(0);
-        for (int at = 0; at < filled.length(); at += 20) {
-            int[] five = new int[5];
-            for (int i = 0; i < 20; i++) {
-                five[i / 4] = five[i / 4] << 8 | filled.charAt(at + i);
-            }
-            x.feed(five[0], five[1], five[2], five[3], five[4]);
-        }
-        x.cut(text.length());
-    }
-
-    private static int program(TreadRing x, String text) {
-        type(x, text);
-        return x.program();
-    }
-
+public final class PromiseTest extends Asked {
     private static void fresh() {
         TreadRing x = new TreadRing();
         int[] about = {8, 0, 0, 0, 0, 0, 0, 0, 0, 0, 2, 2, -1, 0, 0, 0, 0, 0, 0};
@@ -1348,9 +1286,6 @@ public final class PromiseTest {
     public static void main(String[] args) {
         first();
         second();
-        System.out.println(asked + " answers asked, " + wrong + " not as due");
-        if (wrong != 0) {
-            System.exit(1);
-        }
+        tell();
     }
 }
