@@ -2,6 +2,8 @@
 public final class EdgeTest extends Asked {
     private static final int LEAST = Integer.MIN_VALUE;
     private static final int MOST = Integer.MAX_VALUE;
+    /** More than twice as many as are kept. */
+    private static final int ACTS = 45;
 
     private static void untouched(TreadRing x, String ahead) {
         due("nothing is done", whole(x).equals(ahead), true);
@@ -708,17 +710,17 @@ public final class EdgeTest extends Asked {
     private static void undo() {
         says(20, "UNDO: true;");
         TreadRing x = new TreadRing();
-        String[] seen = new String[26];
+        String[] seen = new String[ACTS + 1];
         seen[0] = heap(x);
-        for (int i = 1; i <= 25; i++) {
+        for (int i = 1; i <= ACTS; i++) {
             x.make(i % 6, i % 8);
             seen[i] = heap(x);
         }
-        for (int i = 24; i >= 5; i--) {
+        for (int i = ACTS - 1; i >= ACTS - 20; i--) {
             due("undo()", x.undo(), true);
             due("all is as it was behind ACT " + i, heap(x).equals(seen[i]), true);
-            due("about(13)", x.about(13), i - 5);
-            due("about(14)", x.about(14), 25 - i);
+            due("about(13)", x.about(13), i - ACTS + 20);
+            due("about(14)", x.about(14), ACTS - i);
         }
 
         says(20, "false if there is none.");
@@ -728,11 +730,11 @@ public final class EdgeTest extends Asked {
         due("undo() of a new one", new TreadRing().undo(), false);
 
         says(21, "REDO: true;");
-        for (int i = 6; i <= 25; i++) {
+        for (int i = ACTS - 19; i <= ACTS; i++) {
             due("redo()", x.redo(), true);
             due("all is as it was behind ACT " + i, heap(x).equals(seen[i]), true);
-            due("about(13)", x.about(13), i - 5);
-            due("about(14)", x.about(14), 25 - i);
+            due("about(13)", x.about(13), i - ACTS + 20);
+            due("about(14)", x.about(14), ACTS - i);
         }
 
         says(21, "false if there is none.");

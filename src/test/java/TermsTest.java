@@ -481,6 +481,15 @@ public final class TermsTest extends Asked {
             dueAll("told(" + i + ", ..)", told(x, i), 0, 17 - i, 0);
         }
         dueAll("the oldest is gone", told(x, 16), NONE, NONE, NONE);
+        TreadRing w = quiet(8);
+        for (int n = 0; n < 40; n++) {
+            litter(w, 0, n % 7 + 1);
+            w.start();
+        }
+        for (int i = 0; i < 16; i++) {
+            dueAll("of forty told(" + i + ", ..)", told(w, i), 0, (39 - i) % 7 + 1, 0);
+        }
+        dueAll("of forty the seventeenth", told(w, 16), NONE, NONE, NONE);
         TreadRing z = chain();
         for (int cycle = 0; cycle < 3; cycle++) {
             z.start();
