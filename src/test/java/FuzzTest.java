@@ -249,7 +249,65 @@ public final class FuzzTest {
         return same(name, arguments(name));
     }
 
+    /** A ROOT that names an OBJECT with FIELDS (slot() what 2) or one whose FIELDS name some (3), if there is one. */
+    private int rootWith(int what) {
+        int first = draw(0, 5);
+        for (int i = 0; i < 6; i++) {
+            int root = (first + i) % 6;
+            if (ring.slot(ring.root(root), what) > 0) {
+                return root;
+            }
+        }
+        return first;
+    }
+
+    private int fieldOf(int root) {
+        return draw(0, Math.max(0, ring.slot(ring.root(root), 2) - 1));
+    }
+
+    /** Names are moved about while a CYCLE goes on slowly: without a BARRIER, something is LOST now and then. */
+    private boolean tangledCall() throws Exception {
+        int kind = random.nextInt(20);
+        int root = rootWith(kind < 8 ? 3 : 2);
+        int other = draw(0, 5);
+        if (kind < 5) {
+            int field = fieldOf(root);
+            return same("load", other, root, field) && same("store", root, field, draw(-1, 0));
+        }
+        if (kind < 8) {
+            return same("load", other, root, fieldOf(root));
+        }
+        if (kind < 10) {
+            return same("store", root, fieldOf(root), draw(-1, 5));
+        }
+        if (kind < 14) {
+            return same("make", other, draw(1, 3)) && same("store", other, fieldOf(other), root) && same("copy", root, other);
+        }
+        if (kind < 16) {
+            return same("start") && same("law", 0) && same("live", 3);
+        }
+        if (kind < 18) {
+            return same("work", draw(1, 3)) && same("law", 0) && same("end", 3);
+        }
+        return oneCall();
+    }
+
+    private boolean tangledRun() throws Exception {
+        boolean fine = same("open", draw(2, 8)) && same("turn", 0, draw(1, 5) > 3 ? draw(0, 2) : 3) && same("turn", 1, draw(0, 3))
+                && same("turn", 2, draw(0, 1)) && same("turn", 3, draw(0, 2));
+        for (int i = 0; i < 12 && fine; i++) {
+            fine = same("make", i % 6, draw(1, 3)) && same("store", i % 6, 0, (i + 1) % 6);
+        }
+        for (int i = 0; i < CALLS / 2 && fine; i++) {
+            fine = tangledCall() && (i % 64 != 63 || sameState());
+        }
+        return fine;
+    }
+
     private boolean wholeRun() throws Exception {
+        if (run % 3 == 0) {
+            return tangledRun();
+        }
         if (random.nextInt(3) > 0 && !same("open", draw(1, 8))) {
             return false;
         }
@@ -269,9 +327,13 @@ public final class FuzzTest {
     public static void main(String[] args) throws Exception {
         int runs = args.length > 0 ? Integer.parseInt(args[0]) : RUNS;
         int wrong = 0;
+        int losing = 0;
         for (int run = 1; run <= runs && wrong < 5; run++) {
-            wrong += new FuzzTest(run).wholeRun() ? 0 : 1;
+            FuzzTest test = new FuzzTest(run);
+            wrong += test.wholeRun() ? 0 : 1;
+            losing += test.ring.about(5) > 0 ? 1 : 0;
         }
+        System.out.println(losing + " runs LOST something");
         System.out.println(wrong == 0 ? runs + " drawn runs: all answers are the model's" : wrong + " runs went wrong");
         if (wrong != 0) {
             System.exit(1);
